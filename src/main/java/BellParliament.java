@@ -827,15 +827,10 @@ public final class BellParliament {
             return isIn(member) ? NO_FAULT : NOT_ALLOWED;
         }
 
+        /** The rest of the row is zero, and so open: a bill goes only where an earlier state is copied whole. */
         int bringIn(int first, int last) {
             int bill = bills;
-            statuses[bill] = OPEN;
-            readingCounts[bill] = 0;
             clauseSets[bill] = (-1L << first) & (-1L >>> (CLAUSE_LIMIT - 1 - last));
-            delays[bill] = 0;
-            votersFor[bill] = 0;
-            votersAgainst[bill] = 0;
-            pendings[bill] = 0;
             bills++;
             return bill;
         }

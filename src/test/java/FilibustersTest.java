@@ -6,6 +6,7 @@ public final class FilibustersTest {
         ridesUntilFall();
         noSuchBill();
         totals();
+        totalsOfEight();
         Check.end();
     }
 
@@ -145,5 +146,19 @@ public final class FilibustersTest {
         }
         x.closeReading(4);
         Check.due(43, "stays when the bill falls", 3, x::acceptedCount);
+    }
+
+    private static void totalsOfEight() {
+        BellParliament x = Check.chamber(4, 3, 1);
+        for (int bill = 0; bill < 8; bill++) {
+            x.introduce(0, 0, bill);
+        }
+        Check.due(41, "eight open bills", 0, x::passedCount);
+        Check.due(42, "eight open bills", 0, x::fallenCount);
+        for (int bill = 0; bill < 8; bill++) {
+            x.closeReading(bill);
+        }
+        Check.due(41, "eight fallen bills", 0, x::passedCount);
+        Check.due(42, "eight fallen bills", 8, x::fallenCount);
     }
 }

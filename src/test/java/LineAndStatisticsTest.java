@@ -87,6 +87,25 @@ public final class LineAndStatisticsTest {
         x.ride(0, 6, 30);
         x.ride(0, 6, 30);
         describes(x, 6, "6o0*:64+0-0");
+        Check.due(52, "eight bills", true, x::isConsistent);
+        roundWeights();
+    }
+
+    private static void roundWeights() {
+        int[][] weights = {{9, 10}, {10, 9}, {99, 11}, {100, 20}, {19, 101}, {1, 100}, {110, 0}};
+        for (int[] w : weights) {
+            BellParliament x = new BellParliament();
+            List<Integer> votersFor = enterWith(x, w[0]);
+            List<Integer> votersAgainst = enterWith(x, w[1]);
+            x.introduce(0, 20, 29);
+            for (int member : votersFor) {
+                x.voteFor(0, member);
+            }
+            for (int member : votersAgainst) {
+                x.voteAgainst(0, member);
+            }
+            describes(x, 0, "0o0:10+" + w[0] + "-" + w[1]);
+        }
     }
 
     private static void meanWeight() {

@@ -7,6 +7,7 @@ public final class UndoTest {
         runIsOneChange();
         snapshot();
         snapshotAndUndo();
+        snapshotIsApart();
         Check.end();
     }
 
@@ -204,5 +205,43 @@ public final class UndoTest {
         Check.due(55, "only what came behind restore", 0, x::undo);
         Check.due(55, "quorum", 1, x::quorum);
         Check.due(55, "nothing more", Check.STATE, x::undo);
+    }
+
+    /** What takes the place of an undone member or bill must not show in the snapshot. */
+    private static void snapshotIsApart() {
+        BellParliament x = Check.chamber(5, 3, 7);
+        x.addMember(2, 6);
+        x.save();
+        x.undo();
+        x.addMember(1, 4);
+        Check.due(53, "ward of the new one", 1, () -> x.wardOf(3));
+        Check.due(53, "weight of the new one", 4, () -> x.weightOf(3));
+        x.restore();
+        Check.due(55, "ward of the saved one", 2, () -> x.wardOf(3));
+        Check.due(55, "weight of the saved one", 6, () -> x.weightOf(3));
+        x.introduce(0, 3, 4);
+        x.save();
+        x.undo();
+        x.introduce(0, 5, 9);
+        x.voteFor(0, 1);
+        x.propose(0, 1, 8);
+        x.ride(0, 0, 30);
+        Check.due(53, "the new bill", "0o0:5+3-0", () -> describe(x));
+        x.undo();
+        x.undo();
+        x.undo();
+        x.undo();
+        x.introduce(0, 6, 6);
+        Check.due(53, "a bill begins anew", "0o0:1+0-0", () -> describe(x));
+        Check.due(53, "without delay", 0, () -> x.delay(0));
+        Check.due(53, "without amendments", 0, () -> x.pendingCount(0));
+        x.restore();
+        Check.due(55, "the saved bill", "0o0:2+0-0", () -> describe(x));
+        Check.due(55, "its clauses", 24L, () -> x.clauses(0));
+    }
+
+    private static String describe(BellParliament x) {
+        x.describeBill(0);
+        return Check.line(x);
     }
 }

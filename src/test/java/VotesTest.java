@@ -4,6 +4,7 @@ public final class VotesTest {
         voting();
         wrongVotes();
         weights();
+        eachWeight();
         readings();
         wrongReadings();
         Check.end();
@@ -84,6 +85,20 @@ public final class VotesTest {
             Check.due(27, "bill " + bill, Check.INDEX, () -> x.weightFor(bill));
             Check.due(28, "bill " + bill, Check.INDEX, () -> x.weightForByDigits(bill));
             Check.due(29, "bill " + bill, Check.INDEX, () -> x.weightAgainst(bill));
+        }
+    }
+
+    private static void eachWeight() {
+        for (int weight = 1; weight <= 7; weight++) {
+            int want = weight;
+            BellParliament x = Check.chamber(weight, 8 - weight);
+            x.introduce(0, 0, 9);
+            x.voteFor(0, 0);
+            Check.due(27, "one voter", want, () -> x.weightFor(0));
+            Check.due(28, "one voter", want, () -> x.weightForByDigits(0));
+            x.voteAgainst(0, 0);
+            x.voteFor(0, 1);
+            Check.due(28, "the other voter", 8 - want, () -> x.weightForByDigits(0));
         }
     }
 
