@@ -37,6 +37,10 @@ final class Check {
         }
     }
 
+    static int checked() {
+        return checked;
+    }
+
     static void end() {
         System.out.println(checked + " answers, " + wrong + " wrong");
         if (wrong != 0) {

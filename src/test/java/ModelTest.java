@@ -161,7 +161,11 @@ public final class ModelTest {
         }
     }
 
+    /** What comes behind the last of the 512 calls is left out: its answer is free. */
     private boolean call(String name, Object... arguments) throws Exception {
+        if (calls == CALLS) {
+            return true;
+        }
         calls++;
         Class<?>[] types = new Class<?>[arguments.length];
         for (int i = 0; i < types.length; i++) {
